@@ -1,17 +1,17 @@
 /** Promises 1 to 7. */
 public final class CarsTest {
     public static void main(String[] args) {
-        aNewObject();
-        putOnKeepsTheGap();
-        putOnLooksAtBothWays();
-        putOnCountsCarsThatWereTakenOff();
-        takeOffAnswersThePartsMoved();
-        takeOffAsksForTheBottomStation();
-        takeOffAsksForAnEmptyCar();
-        carsAreCounted();
-        placesGoRoundTheLoop();
-        leastGapTakesTheLesserWay();
-        noSuchCar();
+        Check.part(CarsTest::aNewObject);
+        Check.part(CarsTest::putOnKeepsTheGap);
+        Check.part(CarsTest::putOnLooksAtBothWays);
+        Check.part(CarsTest::putOnCountsCarsThatWereTakenOff);
+        Check.part(CarsTest::takeOffAnswersThePartsMoved);
+        Check.part(CarsTest::takeOffAsksForTheBottomStation);
+        Check.part(CarsTest::takeOffAsksForAnEmptyCar);
+        Check.part(CarsTest::carsAreCounted);
+        Check.part(CarsTest::placesGoRoundTheLoop);
+        Check.part(CarsTest::leastGapTakesTheLesserWay);
+        Check.part(CarsTest::noSuchCar);
         Check.end();
     }
 

@@ -8,18 +8,31 @@ final class Check {
     static final String ARGUMENT = "IllegalArgumentException";
     static final String STATE = "IllegalStateException";
 
+    private static String sentence = "";
     private static int wrong = 0;
     private static int asked = 0;
 
     private Check() {
     }
 
-    static void due(String what, long want, long got) {
-        asked++;
-        if (got != want) {
-            wrong++;
-            System.out.println(what + " answered " + got + ", due is " + want);
+    /** Goes on behind a part that an exception ends, so that each part stands for itself. */
+    static void part(Runnable part) {
+        sentence = "";
+        try {
+            part.run();
+        } catch (RuntimeException e) {
+            String where = e.getStackTrace().length > 1 ? e.getStackTrace()[1].toString() : "unknown";
+            due("a call at " + where, "an answer", "throws." + e);
         }
+    }
+
+    /** The sentence of the document that the next answers of this part are held against. */
+    static void sentence(String words) {
+        sentence = words;
+    }
+
+    static void due(String what, long want, long got) {
+        due(what, Long.toString(want), Long.toString(got));
     }
 
     static void due(String what, boolean want, boolean got) {
@@ -31,6 +44,9 @@ final class Check {
         if (!want.equals(got)) {
             wrong++;
             System.out.println(what + " answered " + got + ", due is " + want);
+            if (!sentence.isEmpty()) {
+                System.out.println("    against: " + sentence);
+            }
         }
     }
 
@@ -48,8 +64,10 @@ final class Check {
     }
 
     static void end() {
-        System.out.println(wrong == 0 ? asked + " answers, all as due" : wrong + " of " + asked + " answers not as due");
-        if (wrong != 0) {
+        if (wrong == 0) {
+            System.out.println(asked + " answers, all as due");
+        } else {
+            System.out.println(wrong + " of " + asked + " answers not as due");
             System.exit(1);
         }
     }

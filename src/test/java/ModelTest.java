@@ -2,13 +2,15 @@ import java.util.Random;
 
 /** Runs drawn by fixed seeds, in which the program must answer as the model does. */
 public final class ModelTest {
-    private static final int RUNS = 200;
-    private static final int STEPS = 300;
+    private static final int RUNS = 300;
+    // What calls beyond these answer is free.
+    private static final int MOST_CALLS = 512;
 
     private final Random random;
     private final RopeVotes x = new RopeVotes();
     private final Model m = new Model();
     private final int mood;
+    private int calls = 0;
 
     private ModelTest(int seed) {
         random = new Random(seed);
@@ -18,8 +20,8 @@ public final class ModelTest {
     public static void main(String[] args) {
         for (int seed = 0; seed < RUNS; seed++) {
             ModelTest run = new ModelTest(seed);
-            for (int call = 0; call < STEPS; call++) {
-                run.call("seed " + seed + " call " + call + ": ");
+            while (run.calls < MOST_CALLS) {
+                run.call("seed " + seed + " call " + run.calls + ": ");
             }
         }
         Check.end();
@@ -139,7 +141,10 @@ public final class ModelTest {
         return 0;
     }
 
-    private static void same(String what, Check.Call program, Check.Call model) {
-        Check.due(what, Check.outcome(model), Check.outcome(program));
+    private void same(String what, Check.Call program, Check.Call model) {
+        if (calls < MOST_CALLS) {
+            calls++;
+            Check.due(what, Check.outcome(model), Check.outcome(program));
+        }
     }
 }

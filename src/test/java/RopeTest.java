@@ -1,14 +1,14 @@
 /** Promises 16 to 21. */
 public final class RopeTest {
     public static void main(String[] args) {
-        holdAnswersWhetherItWas();
-        aHeldRopeStands();
-        passAnswersThePartsMoved();
-        passRefusesWrongMinutes();
-        passEndsAtTheTime1000();
-        timeAndTurns();
-        decidedOfEachMinute();
-        minutesOfEachSpeed();
+        Check.part(RopeTest::holdAnswersWhetherItWas);
+        Check.part(RopeTest::aHeldRopeStands);
+        Check.part(RopeTest::passAnswersThePartsMoved);
+        Check.part(RopeTest::passRefusesWrongMinutes);
+        Check.part(RopeTest::passEndsAtTheTime1000);
+        Check.part(RopeTest::timeAndTurns);
+        Check.part(RopeTest::decidedOfEachMinute);
+        Check.part(RopeTest::minutesOfEachSpeed);
         Check.end();
     }
 

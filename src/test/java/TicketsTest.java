@@ -1,20 +1,20 @@
 /** Promises 22 to 27. */
 public final class TicketsTest {
     public static void main(String[] args) {
-        boardRefusesWrongArguments();
-        boardAsksForAStation();
-        boardAsksForRoom();
-        boardSellsSixtyTickets();
-        boardThrowsTheFirstThatApplies();
-        peopleAreThoseWhoHaveNotArrived();
-        arrivedAtTheTop();
-        arrivedAtTheBottom();
-        arrivedByPassing();
-        hungOutOfStationsOnly();
-        hungWhenVotesStopTheRope();
-        refundsOfMinutesHung();
-        refundIsAtMostTheFare();
-        noSuchTicket();
+        Check.part(TicketsTest::boardRefusesWrongArguments);
+        Check.part(TicketsTest::boardAsksForAStation);
+        Check.part(TicketsTest::boardAsksForRoom);
+        Check.part(TicketsTest::boardSellsSixtyTickets);
+        Check.part(TicketsTest::boardThrowsTheFirstThatApplies);
+        Check.part(TicketsTest::peopleAreThoseWhoHaveNotArrived);
+        Check.part(TicketsTest::arrivedAtTheTop);
+        Check.part(TicketsTest::arrivedAtTheBottom);
+        Check.part(TicketsTest::arrivedByPassing);
+        Check.part(TicketsTest::hungOutOfStationsOnly);
+        Check.part(TicketsTest::hungWhenVotesStopTheRope);
+        Check.part(TicketsTest::refundsOfMinutesHung);
+        Check.part(TicketsTest::refundIsAtMostTheFare);
+        Check.part(TicketsTest::noSuchTicket);
         Check.end();
     }
 

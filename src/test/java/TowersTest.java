@@ -1,20 +1,20 @@
 /** Promises 8 to 15. */
 public final class TowersTest {
     public static void main(String[] args) {
-        windAgainstTheFirstLimits();
-        setLimitsAnswersTheVote();
-        wrongWindsAndLimits();
-        cutCountsTowers();
-        aVoteComesInItsMinute();
-        aVoteGoesToTheNearestTower();
-        anEarlierVoteIsNotTaken();
-        votesOfOneTowerThatComeTogether();
-        lostVotes();
-        cuttingLaterDoesNotMatter();
-        votesAreFreshForThreeMinutes();
-        quorums();
-        aStopThatIsNotFreshDoesNotCount();
-        noSuchTower();
+        Check.part(TowersTest::windAgainstTheFirstLimits);
+        Check.part(TowersTest::setLimitsAnswersTheVote);
+        Check.part(TowersTest::wrongWindsAndLimits);
+        Check.part(TowersTest::cutCountsTowers);
+        Check.part(TowersTest::aVoteComesInItsMinute);
+        Check.part(TowersTest::aVoteGoesToTheNearestTower);
+        Check.part(TowersTest::anEarlierVoteIsNotTaken);
+        Check.part(TowersTest::votesOfOneTowerThatComeTogether);
+        Check.part(TowersTest::lostVotes);
+        Check.part(TowersTest::cuttingLaterDoesNotMatter);
+        Check.part(TowersTest::votesAreFreshForThreeMinutes);
+        Check.part(TowersTest::quorums);
+        Check.part(TowersTest::aStopThatIsNotFreshDoesNotCount);
+        Check.part(TowersTest::noSuchTower);
         Check.end();
     }
 
